@@ -33,6 +33,7 @@ public final class MoodSlips {
 
     private static final int MOOD_A = 0;
     private static final int MOOD_E = 1;
+    private static final int MOOD_I = 2;
     private static final int MOOD_O = 3;
 
     // The kinds 0 to 5 repeat within 64 regions; 6 and 7 take whole words.
@@ -46,7 +47,7 @@ public final class MoodSlips {
     private final Desk desk = new Desk();
     private final Desk[] images = {new Desk(), new Desk()};
     private final Theory theory = new Theory();
-    private final Claim simple = new Claim();
+    private final Sentence simple = new Sentence(new byte[0]);
     private final Denial denial = new Denial();
     private final Quarrels quarrelling = new Quarrels();
     private final Fewest sufficing = new Fewest();
@@ -54,7 +55,6 @@ public final class MoodSlips {
     private final Derivation derivation = new Derivation();
     private final int[] riddleNumbers = new int[MOST_DRAWN];
     private int riddleSize;
-    private int faultPlace = NONE;
     private final int[] refusals = new int[5];
     private int latestRefusal;
 
@@ -92,7 +92,7 @@ public final class MoodSlips {
             reader.size = 0;
             return refuse(NO_ROOM);
         }
-        Sentence sentence = readTape();
+        Sentence sentence = reader.read();
         if (sentence == null) {
             return refuse(BAD_TEXT);
         }
@@ -105,7 +105,7 @@ public final class MoodSlips {
 
     /** The tape becomes the question. */
     public int question() {
-        Sentence sentence = readTape();
+        Sentence sentence = reader.read();
         if (sentence == null) {
             return refuse(BAD_TEXT);
         }
@@ -114,14 +114,7 @@ public final class MoodSlips {
 
     /** The fault of the latest text that was read. */
     public int fault() {
-        return faultPlace;
-    }
-
-    private Sentence readTape() {
-        Sentence sentence = reader.read();
-        faultPlace = sentence == null ? reader.from : NONE;
-        reader.size = 0;
-        return sentence;
+        return reader.faultPlace;
     }
 
     private int ask(Sentence sentence) {
@@ -175,7 +168,7 @@ public final class MoodSlips {
         }
         switch (what) {
             case 0:
-                return sentence.claim.says;
+                return sentence.says;
             case 1:
                 return sentence.mood;
             case 2:
@@ -183,9 +176,9 @@ public final class MoodSlips {
             case 3:
                 return sentence.predicateKind;
             case 4:
-                return sentence.claim.bearer;
+                return sentence.bearer;
             case 5:
-                return sizeOf(sentence.claim.set);
+                return sizeOf(sentence.set);
             default:
                 return NONE;
         }
@@ -197,7 +190,7 @@ public final class MoodSlips {
         if (sentence == null || region < 0 || region >= REGIONS) {
             return NONE;
         }
-        return isIn(sentence.claim.set, region) ? 1 : 0;
+        return isIn(sentence.set, region) ? 1 : 0;
     }
 
     /** The signs of a slip or the question as it is written. */
@@ -230,7 +223,7 @@ public final class MoodSlips {
             return NONE;
         }
         assume(heap);
-        return theory.canFail(asked.claim, desk.told) ? 0 : 1;
+        return theory.canFail(asked, desk.told) ? 0 : 1;
     }
 
     /** Whether it follows that the question is not so. */
@@ -240,7 +233,7 @@ public final class MoodSlips {
             return NONE;
         }
         assume(heap);
-        return theory.canHold(asked.claim, desk.told) ? 0 : 1;
+        return theory.canHold(asked, desk.told) ? 0 : 1;
     }
 
     /** In how many regions things can be by a heap. */
@@ -265,7 +258,7 @@ public final class MoodSlips {
                 continue;
             }
             assume(heap & ~bit);
-            if (!theory.canFail(sentence.claim, desk.told)) {
+            if (!theory.canFail(sentence, desk.told)) {
                 bits |= bit;
             }
         }
@@ -277,7 +270,7 @@ public final class MoodSlips {
         for (int i = 0; i < desk.slipCount; i++) {
             Sentence sentence = desk.slips[i];
             if ((heap & (1 << i)) != 0 && sentence != null) {
-                theory.grantClaim(sentence.claim, desk.told);
+                theory.grantClaim(sentence, desk.told);
             }
         }
     }
@@ -291,12 +284,12 @@ public final class MoodSlips {
             return NONE;
         }
         if (!sufficing.known) {
-            findSufficing(asked.claim);
+            findSufficing(asked);
         }
         return sufficing.tell(what);
     }
 
-    private void findSufficing(Claim asked) {
+    private void findSufficing(Sentence asked) {
         sufficing.clear();
         sufficing.known = true;
         int heaps = 1 << desk.slipCount;
@@ -314,7 +307,7 @@ public final class MoodSlips {
         }
     }
 
-    private boolean suffices(int heap, Claim asked) {
+    private boolean suffices(int heap, Sentence asked) {
         assume(heap);
         return theory.fits() && !theory.canFail(asked, desk.told);
     }
@@ -372,7 +365,7 @@ public final class MoodSlips {
             simple.setNumber(number);
             assume(heap);
             theory.grantClaim(simple, desk.told);
-            if (theory.fits() && !theory.canFail(asked.claim, desk.told)) {
+            if (theory.fits() && !theory.canFail(asked, desk.told)) {
                 return number;
             }
         }
@@ -409,13 +402,13 @@ public final class MoodSlips {
         }
         boolean told = desk.told;
         theory.clear();
-        theory.grantClaim(second.claim, told);
-        boolean firstFollows = !theory.canFail(first.claim, told);
+        theory.grantClaim(second, told);
+        boolean firstFollows = !theory.canFail(first, told);
         theory.clear();
-        theory.grantClaim(first.claim, told);
-        boolean secondFollows = !theory.canFail(second.claim, told);
-        boolean bothSo = theory.canHold(second.claim, told);
-        boolean neitherSo = canBothFail(first.claim, second.claim);
+        theory.grantClaim(first, told);
+        boolean secondFollows = !theory.canFail(second, told);
+        boolean bothSo = theory.canHold(second, told);
+        boolean neitherSo = canBothFail(first, second);
         if (firstFollows && secondFollows) {
             return 1;
         }
@@ -428,7 +421,7 @@ public final class MoodSlips {
         return secondFollows ? 2 : firstFollows ? 3 : 0;
     }
 
-    private boolean canBothFail(Claim first, Claim second) {
+    private boolean canBothFail(Sentence first, Sentence second) {
         theory.clear();
         theory.denyClaim(first);
         if (theory.canFail(second, desk.told)) {
@@ -487,11 +480,11 @@ public final class MoodSlips {
         }
         denial.clear();
         assume(heap);
-        theory.denyClaim(asked.claim);
+        theory.denyClaim(asked);
         denial.consider(theory);
-        if (asked.claim.tellsSubject(desk.told)) {
+        if (asked.tellsSubject(desk.told)) {
             assume(heap);
-            theory.bar(asked.claim.subject);
+            theory.bar(asked.subject);
             denial.consider(theory);
         }
         if (denial.size == 0) {
@@ -535,7 +528,8 @@ public final class MoodSlips {
             case 1:
                 return syllogism.middle;
             case 2:
-                return syllogism.conclude(desk.told);
+                syllogism.learn(desk.told);
+                return syllogism.conclude();
             case 3:
                 return syllogism.subject;
             case 4:
@@ -598,7 +592,8 @@ public final class MoodSlips {
                 derivation.addGiven(sentence.number());
             }
         }
-        derivation.run(syllogism, desk.told);
+        syllogism.learn(desk.told);
+        derivation.run(syllogism);
     }
 
     // ---- a dispute ----
@@ -610,7 +605,7 @@ public final class MoodSlips {
             return refuse(CANNOT_BE);
         }
         theory.clear();
-        if (!theory.canHold(asked.claim, false)) {
+        if (!theory.canHold(asked, false)) {
             return refuse(CANNOT_BE);
         }
         desk.boundCount = 0;
@@ -628,11 +623,11 @@ public final class MoodSlips {
             return refuse(NO_ROOM);
         }
         assumeBound();
-        if (!theory.canFail(asked.claim, false)) {
+        if (!theory.canFail(asked, false)) {
             desk.bind(asked, true);
             return grant(1);
         }
-        if (!theory.canHold(asked.claim, false)) {
+        if (!theory.canHold(asked, false)) {
             desk.bind(asked, false);
             return grant(2);
         }
@@ -658,9 +653,9 @@ public final class MoodSlips {
                 continue;
             }
             if (desk.boundSo[i]) {
-                theory.grantClaim(sentence.claim, false);
+                theory.grantClaim(sentence, false);
             } else {
-                theory.denyClaim(sentence.claim);
+                theory.denyClaim(sentence);
             }
         }
     }
@@ -853,54 +848,47 @@ public final class MoodSlips {
         return word >= 0 && word < set.length && ((set[word] >>> (region & 63)) & 1L) != 0L;
     }
 
-    /** What a sentence says: a set of regions, and how it is meant. */
-    private static final class Claim {
+    /** A sentence and what it says; a slip's never changes, so images may share it. */
+    private static final class Sentence {
         int says = BARS;
         int bearer = NONE;
         boolean hasSubject;
+        int mood = NONE;
+        int subjectKind = NONE;
+        int predicateKind = NONE;
         final long[] set = new long[WORDS];
         final long[] subject = new long[WORDS];
-
-        void setNumber(int number) {
-            setSimple(moodOf(number), subjectOf(number), predicateOf(number));
-        }
-
-        void setSimple(int mood, int subjectKind, int predicateKind) {
-            says = isUniversal(mood) ? BARS : THERE;
-            bearer = NONE;
-            hasSubject = isUniversal(mood);
-            boolean turned = mood == MOOD_A || mood == MOOD_O;
-            for (int w = 0; w < WORDS; w++) {
-                long within = kindWord(subjectKind, w);
-                long other = kindWord(predicateKind, w);
-                set[w] = within & (turned ? ~other : other);
-                subject[w] = within;
-            }
-        }
-
-        boolean tellsSubject(boolean told) {
-            return told && hasSubject;
-        }
-    }
-
-    /** A sentence that was read; it never changes, so images may share it. */
-    private static final class Sentence {
-        final Claim claim;
-        final int mood;
-        final int subjectKind;
-        final int predicateKind;
         final byte[] text;
 
-        Sentence(Claim claim, int mood, int subjectKind, int predicateKind, byte[] text) {
-            this.claim = claim;
-            this.mood = mood;
-            this.subjectKind = subjectKind;
-            this.predicateKind = predicateKind;
+        Sentence(byte[] text) {
             this.text = text;
         }
 
         int number() {
             return mood == NONE ? NONE : numberOf(mood, subjectKind, predicateKind);
+        }
+
+        void setNumber(int number) {
+            setSimple(moodOf(number), subjectOf(number), predicateOf(number));
+        }
+
+        void setSimple(int newMood, int newSubject, int newPredicate) {
+            mood = newMood;
+            subjectKind = newSubject;
+            predicateKind = newPredicate;
+            says = isUniversal(mood) ? BARS : THERE;
+            hasSubject = isUniversal(mood);
+            boolean isAway = mood == MOOD_A || mood == MOOD_O;
+            for (int w = 0; w < WORDS; w++) {
+                long own = kindWord(subjectKind, w);
+                long other = kindWord(predicateKind, w);
+                subject[w] = own;
+                set[w] = own & (isAway ? ~other : other);
+            }
+        }
+
+        boolean tellsSubject(boolean told) {
+            return told && hasSubject;
         }
     }
 
@@ -957,16 +945,16 @@ public final class MoodSlips {
         int thingCount;
         final long[] places = new long[NAMES * WORDS];
         // A name of which nothing is said wants no region of its own in a smallest world.
-        final boolean[] placed = new boolean[NAMES];
+        int placed;
 
         void clear() {
             Arrays.fill(free, -1L);
             Arrays.fill(places, -1L);
-            Arrays.fill(placed, false);
+            placed = 0;
             thingCount = 0;
         }
 
-        void grantClaim(Claim claim, boolean told) {
+        void grantClaim(Sentence claim, boolean told) {
             if (claim.says == BARS) {
                 bar(claim.set);
                 if (claim.tellsSubject(told)) {
@@ -980,7 +968,7 @@ public final class MoodSlips {
         }
 
         /** That a claim is not so, but for a subject told besides. */
-        void denyClaim(Claim claim) {
+        void denyClaim(Sentence claim) {
             if (claim.says == BARS) {
                 want(claim.set);
             } else if (claim.says == THERE) {
@@ -996,16 +984,16 @@ public final class MoodSlips {
             }
         }
 
-        void want(long[] set) {
+        private void want(long[] set) {
             if (thingCount < MOST_WANTS) {
                 System.arraycopy(set, 0, things, thingCount * WORDS, WORDS);
                 thingCount++;
             }
         }
 
-        void place(int bearer, long[] set, long turn) {
+        private void place(int bearer, long[] set, long turn) {
             if (bearer >= 0 && bearer < NAMES) {
-                placed[bearer] = true;
+                placed |= 1 << bearer;
                 for (int w = 0; w < WORDS; w++) {
                     places[bearer * WORDS + w] &= set[w] ^ turn;
                 }
@@ -1017,7 +1005,7 @@ public final class MoodSlips {
         }
 
         /** Whether there is a world that fits, with nothing in some regions besides. */
-        boolean fitsWithout(long[] barred) {
+        private boolean fitsWithout(long[] barred) {
             for (int i = 0; i < thingCount; i++) {
                 if (!meets(things, i * WORDS, barred)) {
                     return false;
@@ -1032,7 +1020,7 @@ public final class MoodSlips {
             return true;
         }
 
-        boolean meets(long[] sets, int at, long[] barred) {
+        private boolean meets(long[] sets, int at, long[] barred) {
             long met = 0L;
             for (int w = 0; w < WORDS; w++) {
                 met |= sets[at + w] & free[w] & ~barred[w];
@@ -1040,29 +1028,29 @@ public final class MoodSlips {
             return met != 0L;
         }
 
-        boolean canHold(Claim claim, boolean told) {
+        boolean canHold(Sentence claim, boolean told) {
             if (claim.says == BARS) {
                 return fitsWithout(claim.set)
                     && (!claim.tellsSubject(told) || meets(claim.subject, 0, claim.set));
             }
             if (claim.says == THERE) {
-                return fits() && meets(claim.set, 0, NO_REGIONS);
+                return fitsWithout(NO_REGIONS) && meets(claim.set, 0, NO_REGIONS);
             }
-            return fits() && canBePlaced(claim, 0L);
+            return fitsWithout(NO_REGIONS) && canBePlaced(claim, 0L);
         }
 
-        boolean canFail(Claim claim, boolean told) {
+        boolean canFail(Sentence claim, boolean told) {
             if (claim.says == BARS) {
-                return fits() && meets(claim.set, 0, NO_REGIONS)
+                return fitsWithout(NO_REGIONS) && meets(claim.set, 0, NO_REGIONS)
                     || claim.tellsSubject(told) && fitsWithout(claim.subject);
             }
             if (claim.says == THERE) {
                 return fitsWithout(claim.set);
             }
-            return fits() && canBePlaced(claim, -1L);
+            return fitsWithout(NO_REGIONS) && canBePlaced(claim, -1L);
         }
 
-        boolean canBePlaced(Claim claim, long turn) {
+        private boolean canBePlaced(Sentence claim, long turn) {
             long met = 0L;
             for (int w = 0; w < WORDS; w++) {
                 met |= placeWord(claim.bearer, w) & (claim.set[w] ^ turn);
@@ -1070,7 +1058,7 @@ public final class MoodSlips {
             return met != 0L;
         }
 
-        long placeWord(int bearer, int word) {
+        private long placeWord(int bearer, int word) {
             if (bearer < 0 || bearer >= NAMES || word < 0 || word >= WORDS) {
                 return 0L;
             }
@@ -1096,13 +1084,7 @@ public final class MoodSlips {
         }
 
         int countWants() {
-            int found = thingCount;
-            for (int i = 0; i < NAMES; i++) {
-                if (placed[i]) {
-                    found++;
-                }
-            }
-            return found;
+            return thingCount + Integer.bitCount(placed);
         }
 
         /** Which of the wants a thing in a region meets, as bits. */
@@ -1118,7 +1100,7 @@ public final class MoodSlips {
             }
             int next = thingCount;
             for (int i = 0; i < NAMES; i++) {
-                if (placed[i]) {
+                if ((placed & (1 << i)) != 0) {
                     bits |= (int) ((places[i * WORDS + word] >>> shift) & 1L) << next;
                     next++;
                 }
@@ -1164,7 +1146,7 @@ public final class MoodSlips {
         }
 
         /** Only masks that are within no other one can be needed to count the fewest. */
-        void noteMask(int bits) {
+        private void noteMask(int bits) {
             if (bits == 0) {
                 return;
             }
@@ -1186,7 +1168,7 @@ public final class MoodSlips {
         }
 
         /** For each set of wants, how many regions meet it at the fewest. */
-        void countFewest(int full) {
+        private void countFewest(int full) {
             if (fewest.length <= full) {
                 fewest = new byte[full + 1];
             }
@@ -1204,7 +1186,7 @@ public final class MoodSlips {
         }
 
         /** A region of some smallest row that is lower than all others is the first of the first row. */
-        void fillTrial(int full) {
+        private void fillTrial(int full) {
             trialSize = 0;
             int rest = full;
             for (int region = 0; region < REGIONS && rest != 0; region++) {
@@ -1217,7 +1199,7 @@ public final class MoodSlips {
             }
         }
 
-        boolean trialIsAhead() {
+        private boolean trialIsAhead() {
             for (int i = 0; i < trialSize; i++) {
                 if (trial[i] != row[i]) {
                     return trial[i] < row[i];
@@ -1264,9 +1246,9 @@ public final class MoodSlips {
 
     /** Which heaps quarrel, and which of those are least. */
     private static final class Quarrels {
-        static final byte CALM = 0;
-        static final byte MORE = 1;
-        static final byte LEAST = 2;
+        static final int CALM = 0;
+        static final int MORE = 1;
+        static final int LEAST = 2;
 
         boolean known;
         byte[] marks = new byte[1];
@@ -1278,7 +1260,7 @@ public final class MoodSlips {
             if (heapCount > marks.length) {
                 marks = new byte[heapCount];
             }
-            Arrays.fill(marks, CALM);
+            Arrays.fill(marks, (byte) CALM);
             heaps = heapCount;
             leastCount = 0;
             known = true;
@@ -1333,69 +1315,78 @@ public final class MoodSlips {
     /** Two simple sentences with a middle, and what they conclude. */
     private static final class Syllogism {
         static final int FIGURES = 4;
-        static final byte UNKNOWN = -2;
+        // The kinds of any two sentences with a middle will do to learn what such two conclude.
+        static final int SUBJECT = 0;
+        static final int MIDDLE = 1;
+        static final int PREDICATE = 2;
 
         int majorMood;
         int minorMood;
-        int figure;
+        int figure = 1;
         int middle;
         int subject;
         int predicate;
-        // What is concluded hangs on moods, figure and existence alone.
-        final byte[] conclusions = new byte[2 * MOODS * MOODS * FIGURES];
+        final byte[] conclusions = new byte[MOODS * MOODS * FIGURES];
+        boolean isLearned;
+        boolean learnedTold;
         final Theory premises = new Theory();
-        final Claim claim = new Claim();
-
-        Syllogism() {
-            Arrays.fill(conclusions, UNKNOWN);
-        }
+        final Sentence claim = new Sentence(new byte[0]);
 
         /** Whether two simple sentences, told by their numbers, have a middle. */
         boolean join(int major, int minor) {
             if (!isSimple(major) || !isSimple(minor)) {
                 return false;
             }
+            int leading = subjectOf(minor);
+            int closing = predicateOf(minor);
             int one = subjectOf(major);
-            int two = predicateOf(major);
-            int three = subjectOf(minor);
-            int four = predicateOf(minor);
-            boolean firstShared = one == three || one == four;
-            boolean secondShared = two == three || two == four;
-            if (firstShared == secondShared) {
+            int other = predicateOf(major);
+            boolean isOneShared = one == leading || one == closing;
+            boolean isOtherShared = other == leading || other == closing;
+            if (isOneShared == isOtherShared) {
                 return false;
             }
             majorMood = moodOf(major);
             minorMood = moodOf(minor);
-            middle = firstShared ? one : two;
-            predicate = firstShared ? two : one;
-            subject = middle == four ? three : four;
-            if (middle == four) {
-                figure = firstShared ? 1 : 2;
+            middle = isOneShared ? one : other;
+            predicate = isOneShared ? other : one;
+            subject = middle == closing ? leading : closing;
+            if (middle == closing) {
+                figure = isOneShared ? 1 : 2;
             } else {
-                figure = firstShared ? 3 : 4;
+                figure = isOneShared ? 3 : 4;
             }
             return true;
         }
 
-        int conclude(boolean told) {
-            int at = ((told ? MOODS : 0) + majorMood) * MOODS * FIGURES + minorMood * FIGURES + figure - 1;
-            if (at < 0 || at >= conclusions.length) {
-                return NONE;
+        /** What is concluded hangs on moods, figure and existence alone, so it is learned once. */
+        void learn(boolean told) {
+            if (isLearned && learnedTold == told) {
+                return;
             }
-            if (conclusions[at] == UNKNOWN) {
-                conclusions[at] = (byte) firstMood(told);
+            for (int at = 0; at < conclusions.length; at++) {
+                conclusions[at] = (byte) firstMood(at >> 4 & 3, at >> 2 & 3, (at & 3) + 1, told);
             }
-            return conclusions[at];
+            isLearned = true;
+            learnedTold = told;
         }
 
-        int firstMood(boolean told) {
+        /** The mood that the two conclude, by what was learned. */
+        int conclude() {
+            int at = (majorMood * MOODS + minorMood) * FIGURES + figure - 1;
+            return at >= 0 && at < conclusions.length ? conclusions[at] : NONE;
+        }
+
+        private int firstMood(int ofMajor, int ofMinor, int inFigure, boolean told) {
+            boolean leadsMajor = leadsMajor(inFigure);
+            boolean leadsMinor = leadsMinor(inFigure);
             premises.clear();
-            claim.setSimple(majorMood, middleLeadsMajor() ? middle : predicate, middleLeadsMajor() ? predicate : middle);
+            claim.setSimple(ofMajor, leadsMajor ? MIDDLE : PREDICATE, leadsMajor ? PREDICATE : MIDDLE);
             premises.grantClaim(claim, told);
-            claim.setSimple(minorMood, middleLeadsMinor() ? middle : subject, middleLeadsMinor() ? subject : middle);
+            claim.setSimple(ofMinor, leadsMinor ? MIDDLE : SUBJECT, leadsMinor ? SUBJECT : MIDDLE);
             premises.grantClaim(claim, told);
             for (int mood = 0; mood < MOODS; mood++) {
-                claim.setSimple(mood, subject, predicate);
+                claim.setSimple(mood, SUBJECT, PREDICATE);
                 if (!premises.canFail(claim, told)) {
                     return mood;
                 }
@@ -1403,40 +1394,44 @@ public final class MoodSlips {
             return NONE;
         }
 
-        boolean middleLeadsMajor() {
+        /** Whether the middle is the subject of the major. */
+        private static boolean leadsMajor(int figure) {
             return figure == 1 || figure == 3;
         }
 
-        boolean middleLeadsMinor() {
+        /** Whether the middle is the subject of the minor. */
+        private static boolean leadsMinor(int figure) {
             return figure == 3 || figure == 4;
         }
 
         /** What the rules find wrong with a mood concluded. */
         int judge(int mood, boolean told) {
-            boolean eitherNegative = isNegative(majorMood) || isNegative(minorMood);
+            boolean leadsMajor = leadsMajor(figure);
+            boolean leadsMinor = leadsMinor(figure);
+            boolean isEitherNegative = isNegative(majorMood) || isNegative(minorMood);
             if (isNegative(majorMood) && isNegative(minorMood)) {
                 return 1;
             }
-            if (!isDistributed(majorMood, middleLeadsMajor()) && !isDistributed(minorMood, middleLeadsMinor())) {
+            if (!isDistributed(majorMood, leadsMajor) && !isDistributed(minorMood, leadsMinor)) {
                 return 2;
             }
-            if (isDistributed(mood, false) && !isDistributed(majorMood, !middleLeadsMajor())) {
+            if (isDistributed(mood, false) && !isDistributed(majorMood, !leadsMajor)) {
                 return 3;
             }
-            if (isDistributed(mood, true) && !isDistributed(minorMood, !middleLeadsMinor())) {
+            if (isDistributed(mood, true) && !isDistributed(minorMood, !leadsMinor)) {
                 return 4;
             }
-            if (!isNegative(mood) && eitherNegative) {
+            if (!isNegative(mood) && isEitherNegative) {
                 return 5;
             }
-            if (isNegative(mood) && !eitherNegative) {
+            if (isNegative(mood) && !isEitherNegative) {
                 return 6;
             }
-            boolean weakened = isUniversal(majorMood) && isUniversal(minorMood) && !isUniversal(mood);
-            return weakened && !told ? 7 : 0;
+            boolean isWeakened = isUniversal(majorMood) && isUniversal(minorMood) && !isUniversal(mood);
+            return isWeakened && !told ? 7 : 0;
         }
 
-        static boolean isDistributed(int mood, boolean asSubject) {
+        private static boolean isDistributed(int mood, boolean asSubject) {
             return asSubject ? isUniversal(mood) : isNegative(mood);
         }
     }
@@ -1465,18 +1460,18 @@ public final class MoodSlips {
             }
         }
 
-        void run(Syllogism syllogism, boolean told) {
+        void run(Syllogism syllogism) {
             int before = 0;
             for (int round = 1; round <= NUMBERS && total > before; round++) {
                 before = total;
-                deriveRound(round, syllogism, told);
+                deriveRound(round, syllogism);
                 if (total > before) {
                     lastRound = round;
                 }
             }
         }
 
-        void deriveRound(int round, Syllogism syllogism, boolean told) {
+        private void deriveRound(int round, Syllogism syllogism) {
             int count = listAhead();
             for (int i = 0; i < count; i++) {
                 for (int j = 0; j < count; j++) {
@@ -1485,14 +1480,14 @@ public final class MoodSlips {
                     // Two that stood a round earlier have concluded what they can.
                     boolean isNew = rounds[major] == round - 1 || rounds[minor] == round - 1;
                     if (isNew && syllogism.join(major, minor)) {
-                        addConclusion(round, syllogism, told, major, minor);
+                        addConclusion(round, syllogism, major, minor);
                     }
                 }
             }
         }
 
-        void addConclusion(int round, Syllogism syllogism, boolean told, int major, int minor) {
-            int mood = syllogism.conclude(told);
+        private void addConclusion(int round, Syllogism syllogism, int major, int minor) {
+            int mood = syllogism.conclude();
             if (mood == NONE) {
                 return;
             }
@@ -1505,7 +1500,7 @@ public final class MoodSlips {
             }
         }
 
-        int listAhead() {
+        private int listAhead() {
             int count = 0;
             for (int number = 0; number < NUMBERS; number++) {
                 if (rounds[number] != NONE) {
@@ -1531,16 +1526,19 @@ public final class MoodSlips {
 
         final byte[] tape = new byte[MOST_BYTES];
         int size;
-        int from;
-        int stop;
-        int form;
-        int bearer;
-        boolean turned;
-        int first;
-        int second;
-        int kindCount;
-        final Tree tree = new Tree();
-        final Writer writer = new Writer();
+        int faultPlace = NONE;
+        // The token that is looked at: its first byte and the one behind it.
+        private int from;
+        private int stop;
+        private int form;
+        private int bearer;
+        // Whether the sentence has a "not" or a "no" of its own.
+        private boolean isTurned;
+        private int first;
+        private int second;
+        private int kindCount;
+        private final Tree tree = new Tree();
+        private final Writer writer = new Writer();
 
         void append(int number) {
             for (int shift = 24; shift >= 0; shift -= 8) {
@@ -1551,115 +1549,130 @@ public final class MoodSlips {
             }
         }
 
-        /** The sentence on the tape; null if there is a fault, at the token that begins at from. */
+        /** The sentence on the tape, which is empty then; null if there is a fault. */
         Sentence read() {
-            tree.count = 0;
+            tree.clear();
             kindCount = 0;
-            stop = 0;
             bearer = NONE;
-            turned = false;
+            isTurned = false;
             first = NONE;
             second = NONE;
+            stop = 0;
             step();
-            if (!parse() || from < size) {
+            boolean isRead = parse() && from >= size;
+            faultPlace = isRead ? NONE : from;
+            size = 0;
+            if (!isRead) {
                 return null;
             }
             tree.findSets();
+            Sentence sentence = new Sentence(writeDown());
             boolean isSwapped = form == ONLY || form == NONE_BUT;
             int subject = isSwapped ? second : first;
             int predicate = isSwapped ? first : second;
-            int mood = moodHere();
-            if (tree.kindAt(subject) == tree.kindAt(predicate)) {
-                mood = NONE;
-            }
-            boolean isPlain = mood != NONE && tree.kindAt(subject) >= 0 && tree.kindAt(predicate) >= 0;
-            return new Sentence(makeClaim(subject, predicate), isPlain ? mood : NONE,
-                isPlain ? tree.kindAt(subject) : NONE, isPlain ? tree.kindAt(predicate) : NONE, writeDown());
+            tellSimple(sentence, tree.kindAt(subject), tree.kindAt(predicate));
+            tellSet(sentence, subject, predicate);
+            return sentence;
         }
 
-        int moodHere() {
-            switch (form) {
-                case ALL:
-                case ONLY:
-                case NONE_BUT:
-                    return MOOD_A;
-                case NO:
-                    return MOOD_E;
-                case SOME:
-                    return turned ? MOOD_O : MOOD_O - 1;
-                default:
-                    return NONE;
+        private void tellSimple(Sentence sentence, int subject, int predicate) {
+            if (areTwoKinds(subject, predicate)) {
+                sentence.subjectKind = subject;
+                sentence.predicateKind = predicate;
+                if (form == SOME) {
+                    sentence.mood = isTurned ? MOOD_O : MOOD_I;
+                } else {
+                    sentence.mood = form == NO ? MOOD_E : MOOD_A;
+                }
             }
         }
 
-        Claim makeClaim(int subject, int predicate) {
-            Claim claim = new Claim();
-            boolean isOne = form == THERE_ARE || form == NAME_IS;
-            claim.bearer = bearer;
-            claim.hasSubject = !isOne && form != SOME;
+        private void tellSet(Sentence sentence, int subject, int predicate) {
+            sentence.bearer = bearer;
             if (form == NAME_IS) {
-                claim.says = NAMED;
+                sentence.says = NAMED;
             } else {
-                claim.says = form == SOME || form == THERE_ARE && !turned ? THERE : BARS;
+                sentence.says = form == SOME || form == THERE_ARE && !isTurned ? THERE : BARS;
             }
-            boolean isAway = form != NO && form != SOME || form == SOME && turned;
+            sentence.hasSubject = form != NAME_IS && form != THERE_ARE && form != SOME;
             for (int w = 0; w < WORDS; w++) {
                 long own = tree.setWord(subject, w);
                 long other = tree.setWord(predicate, w);
-                claim.subject[w] = own;
-                if (isOne) {
-                    claim.set[w] = form == NAME_IS && turned ? ~own : own;
-                } else {
-                    claim.set[w] = own & (isAway ? ~other : other);
-                }
+                sentence.subject[w] = own;
+                sentence.set[w] = meant(own, other);
             }
-            return claim;
         }
 
-        boolean parse() {
-            if (stop - from == 1 && tape[from] >= 'w' && tape[from] <= 'z') {
+        private long meant(long own, long other) {
+            switch (form) {
+                case NAME_IS:
+                    return isTurned ? ~own : own;
+                case THERE_ARE:
+                    return own;
+                case NO:
+                    return own & other;
+                case SOME:
+                    return own & (isTurned ? ~other : other);
+                default:
+                    return own & ~other;
+            }
+        }
+
+        private boolean parse() {
+            if (isSign('w', 'z')) {
                 bearer = tape[from] - 'w';
                 form = NAME_IS;
                 step();
-                return pass("is") && parseOne("not");
+                if (!pass("is")) {
+                    return false;
+                }
+                isTurned = pass("not");
+                first = term(0);
+                return first >= 0;
             }
             if (pass("there")) {
                 form = THERE_ARE;
-                return pass("are") && parseOne("no");
+                if (!pass("are")) {
+                    return false;
+                }
+                isTurned = pass("no");
+                first = term(0);
+                return first >= 0;
             }
-            if (pass("all")) {
-                form = ALL;
-            } else if (pass("no")) {
-                form = NO;
-            } else if (pass("some")) {
-                form = SOME;
-            } else if (pass("only")) {
-                form = ONLY;
-            } else if (pass("none")) {
-                form = NONE_BUT;
-            } else {
+            form = formHere();
+            if (form == NONE) {
                 return false;
             }
-            return (form != NONE_BUT || pass("but")) && parseTwo();
-        }
-
-        boolean parseOne(String turning) {
-            turned = pass(turning);
-            first = term(0);
-            return first >= 0;
-        }
-
-        boolean parseTwo() {
+            step();
+            if (form == NONE_BUT && !pass("but")) {
+                return false;
+            }
             first = term(0);
             if (first < 0 || !pass("are")) {
                 return false;
             }
-            turned = form == SOME && pass("not");
+            isTurned = form == SOME && pass("not");
             second = term(0);
             return second >= 0;
         }
 
-        int term(int depth) {
+        private int formHere() {
+            if (isAt("all")) {
+                return ALL;
+            }
+            if (isAt("no")) {
+                return NO;
+            }
+            if (isAt("some")) {
+                return SOME;
+            }
+            if (isAt("only")) {
+                return ONLY;
+            }
+            return isAt("none") ? NONE_BUT : NONE;
+        }
+
+        private int term(int depth) {
             int node = both(depth);
             for (int i = 0; i < MOST_KINDS && node >= 0 && pass("or"); i++) {
                 node = tree.join(Tree.OR, node, both(depth));
@@ -1667,7 +1680,7 @@ public final class MoodSlips {
             return node;
         }
 
-        int both(int depth) {
+        private int both(int depth) {
             int node = plain(depth);
             for (int i = 0; i < MOST_KINDS && node >= 0 && pass("who"); i++) {
                 node = pass("are") ? tree.join(Tree.WHO, node, plain(depth)) : NONE;
@@ -1676,32 +1689,30 @@ public final class MoodSlips {
         }
 
         /** A plain term; its rows of "not" are counted, so that they take no depth. */
-        int plain(int depth) {
+        private int plain(int depth) {
             int nots = 0;
             while (nots < MOST_BYTES && pass("not")) {
                 nots++;
             }
             int node = NONE;
-            if (stop - from == 1 && tape[from] >= 'a' && tape[from] < 'a' + KINDS) {
+            if (isSign('a', 'h')) {
                 if (kindCount < MOST_KINDS) {
                     kindCount++;
-                    node = tree.leaf(tape[from] - 'a');
+                    node = tree.make(tape[from] - 'a', NONE, NONE);
                     step();
                 }
             } else if (depth < MOST_BRACKETS && pass("(")) {
                 node = term(depth + 1);
-                if (!isAt(")")) {
+                // A fault inside stays where it is, even if it is at a closing bracket.
+                if (node >= 0 && !pass(")")) {
                     node = NONE;
-                }
-                if (node >= 0) {
-                    step();
                 }
             }
             tree.negate(node, nots);
             return node;
         }
 
-        boolean pass(String word) {
+        private boolean pass(String word) {
             if (!isAt(word)) {
                 return false;
             }
@@ -1709,7 +1720,7 @@ public final class MoodSlips {
             return true;
         }
 
-        boolean isAt(String word) {
+        private boolean isAt(String word) {
             int length = word.length();
             if (stop - from != length) {
                 return false;
@@ -1722,8 +1733,12 @@ public final class MoodSlips {
             return true;
         }
 
+        private boolean isSign(char low, char high) {
+            return stop - from == 1 && tape[from] >= low && tape[from] <= high;
+        }
+
         /** To the next token; at the end it is empty and begins at the text's length. */
-        void step() {
+        private void step() {
             from = stop;
             while (from < size && tape[from] == ' ') {
                 from++;
@@ -1737,25 +1752,25 @@ public final class MoodSlips {
             }
         }
 
-        byte[] writeDown() {
+        private byte[] writeDown() {
             writer.clear();
             if (form == NAME_IS) {
                 writer.putSign((char) ('w' + bearer));
-                writer.putWord(turned ? "is not" : "is");
-                writeTerm(first, !turned);
+                writer.putWord(isTurned ? "is not" : "is");
+                writer.putTerm(tree, first, !isTurned);
             } else if (form == THERE_ARE) {
-                writer.putWord(turned ? "there are no" : "there are");
-                writeTerm(first, false);
+                writer.putWord(isTurned ? "there are no" : "there are");
+                writer.putTerm(tree, first, false);
             } else {
                 writer.putWord(leadingWords());
-                writeTerm(first, false);
-                writer.putWord(turned ? "are not" : "are");
-                writeTerm(second, form == SOME && !turned);
+                writer.putTerm(tree, first, false);
+                writer.putWord(isTurned ? "are not" : "are");
+                writer.putTerm(tree, second, form == SOME && !isTurned);
             }
             return writer.copy();
         }
 
-        String leadingWords() {
+        private String leadingWords() {
             switch (form) {
                 case ALL:
                     return "all";
@@ -1767,18 +1782,6 @@ public final class MoodSlips {
                     return "only";
                 default:
                     return "none but";
-            }
-        }
-
-        /** Ahead of a term a "not" could be taken as the sentence's own: brackets keep it off. */
-        void writeTerm(int node, boolean keepsNotOff) {
-            boolean wraps = keepsNotOff && tree.beginsWithNot(node);
-            if (wraps) {
-                writer.putOpening();
-            }
-            writer.putNode(tree, node, false, false, 0);
-            if (wraps) {
-                writer.putClosing();
             }
         }
     }
@@ -1801,8 +1804,8 @@ public final class MoodSlips {
             return node >= 0 && node < count;
         }
 
-        int leaf(int kind) {
-            return make(kind, NONE, NONE);
+        void clear() {
+            count = 0;
         }
 
         int join(int sort, int left, int right) {
@@ -1894,7 +1897,7 @@ public final class MoodSlips {
             }
         }
 
-        void putBlank() {
+        private void putBlank() {
             if (length > 0 && length <= MOST_SIGNS && signs[length - 1] != '(') {
                 putSign(' ');
             }
@@ -1907,16 +1910,19 @@ public final class MoodSlips {
             }
         }
 
-        void putOpening() {
-            putBlank();
-            putSign('(');
+        /** Ahead of a term a "not" could be taken as the sentence's own: brackets keep it off. */
+        void putTerm(Tree tree, int node, boolean keepsNotOff) {
+            boolean wraps = keepsNotOff && tree.beginsWithNot(node);
+            if (wraps) {
+                putWord("(");
+            }
+            putNode(tree, node, false, false, 0);
+            if (wraps) {
+                putSign(')');
+            }
         }
 
-        void putClosing() {
-            putSign(')');
-        }
-
-        void putNode(Tree tree, int node, boolean orWraps, boolean whoWraps, int depth) {
+        private void putNode(Tree tree, int node, boolean orWraps, boolean whoWraps, int depth) {
             if (!tree.hasNode(node) || depth > Tree.MOST_NODES) {
                 return;
             }
@@ -1933,13 +1939,13 @@ public final class MoodSlips {
             boolean isOr = sort == Tree.OR;
             boolean wraps = nots > 0 || (isOr ? orWraps : whoWraps);
             if (wraps) {
-                putOpening();
+                putWord("(");
             }
             putNode(tree, tree.lefts[node], !isOr, false, depth + 1);
             putWord(isOr ? "or" : "who are");
             putNode(tree, tree.rights[node], true, !isOr, depth + 1);
             if (wraps) {
-                putClosing();
+                putSign(')');
             }
         }
     }
