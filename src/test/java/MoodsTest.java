@@ -58,10 +58,30 @@ public final class MoodsTest {
     return -1;
   }
 
-  private static int wrongDue(int major, int minor, int mood, int figure, boolean told) {
+  private static int wrongBySchools(int major, int minor, int mood, int figure, boolean told) {
     String form = "" + MOODS.charAt(major) + MOODS.charAt(minor) + MOODS.charAt(mood) + figure;
     if (STRONG.contains(form) || told && WEAK.contains(form)) return 0;
     return WEAK.contains(form) ? 7 : -2;
+  }
+
+  /** The kinds that are distributed in a simple sentence, as bits. */
+  private static int distributed(int mood, int s, int p) {
+    return (mood <= 1 ? 1 << s : 0) | (mood % 2 == 1 ? 1 << p : 0);
+  }
+
+  /** The rules in their order, with subject 0, middle 1, predicate 2. */
+  private static int wrongByRules(int major, int minor, int mood, int figure, boolean told) {
+    int inMajor = leadsMajor(figure) ? distributed(major, 1, 2) : distributed(major, 2, 1);
+    int inMinor = leadsMinor(figure) ? distributed(minor, 1, 0) : distributed(minor, 0, 1);
+    int inIt = distributed(mood, 0, 2);
+    int negatives = major % 2 + minor % 2;
+    if (negatives == 2) return 1;
+    if (((inMajor | inMinor) & 2) == 0) return 2;
+    if ((inIt & ~inMajor & 4) != 0) return 3;
+    if ((inIt & ~inMinor & 1) != 0) return 4;
+    if (mood % 2 == 0 && negatives > 0) return 5;
+    if (mood % 2 == 1 && negatives == 0) return 6;
+    return major < 2 && minor < 2 && mood >= 2 && !told ? 7 : 0;
   }
 
   private static void checkPairs() {
@@ -96,10 +116,10 @@ public final class MoodsTest {
     check.due(at + "turned figure", x.pair(1, 0, 0), turned[figure]);
     check.due(at + "turned subject", x.pair(1, 0, 3), p);
     for (int mood = 0; mood < 4; mood++) {
-      int wrong = wrongDue(major, minor, mood, figure, told == 1);
-      int got = x.wrong(0, 1, mood);
-      if (wrong >= 0) check.due(at + "wrong " + mood, got, wrong);
-      else check.due(at + "wrong " + mood, got >= 1 && got <= 6 ? 1 : 0, 1);
+      int wrong = wrongBySchools(major, minor, mood, figure, told == 1);
+      int rules = wrongByRules(major, minor, mood, figure, told == 1);
+      check.due(at + "schools " + mood, wrong, rules == 0 || rules == 7 ? rules : -2);
+      check.due(at + "wrong " + mood, x.wrong(0, 1, mood), rules);
     }
     check.due(at + "wrong 4", x.wrong(0, 1, 4), -1);
     check.due(at + "wrong -1", x.wrong(0, 1, -1), -1);
