@@ -1152,6 +1152,7 @@ public final class MoodSlips {
             }
             int stay = 0;
             for (int i = 0; i < maskCount; i++) {
+                // None has been moved by then: what is within bits would be within this one.
                 if ((bits & ~masks[i]) == 0) {
                     return;
                 }

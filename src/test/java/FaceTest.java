@@ -87,6 +87,13 @@ public final class FaceTest {
     due("empty's fault", x.fault(), 0);
     due("blanks", Texts.question(x, "     "), -6);
     due("blanks' fault", x.fault(), 5);
+    String[] words = {"all az are b", "all ah are b", "all za are b", "all hh are b", "allx a are b", "all a areb", "wx is a",
+      "all i are b", "w is z", "all A are b", "some a are nota", "all a are b.", "none a are b", "there a", "w is no a"};
+    int[] places = {4, 4, 4, 4, 0, 6, 0, 4, 5, 4, 11, 11, 5, 6, 5};
+    for (int i = 0; i < words.length; i++) {
+      due(words[i], Texts.question(x, words[i]), -6);
+      due("fault of " + words[i], x.fault(), places[i]);
+    }
     due("trailing", Texts.question(x, "z is a a"), -6);
     due("trailing's fault", x.fault(), 7);
   }
@@ -255,6 +262,13 @@ public final class FaceTest {
     due("lowest", y.calm(2), 63);
     Texts.question(y, "there are a");
     due("least of twelve", y.least(1), 6);
+    MoodSlips z = new MoodSlips();
+    for (int i = 0; i < 12; i++) Texts.slip(z, "there are a who are not a");
+    due("each with itself", z.quarrel(-1), 12);
+    due("the last of itself", z.quarrel(11), 2048);
+    due("all twelve out", z.calm(0), 12);
+    due("in one way", z.calm(1), 1);
+    due("that is all", z.calm(2), 4095);
     due("full heap", y.quarrels(4095), 1);
     due("beyond", y.quarrels(4096), -1);
   }
@@ -400,6 +414,15 @@ public final class FaceTest {
     due("its minor", y.by(0, 0, 3, 1), 1);
     Texts.slip(y, "all f are a");
     due("ring", y.derive(0), 30);
+    MoodSlips z = with("all h are a", "x is h", "there are h", "all h are h", "all g are h or a", "no h are not a");
+    for (int i = 1; i < 6; i++)
+      for (int what = 0; what < 5; what++) {
+        due("not simple " + i, z.pair(0, i, what), -1);
+        due("not simple major " + i, z.pair(i, 0, what), -1);
+        due("wrong of not simple " + i, z.wrong(0, i, 1), -1);
+        due("wrong of not simple major " + i, z.wrong(i, 0, 1), -1);
+      }
+    due("one is derived", z.derive(0), 1);
   }
 
   /** Promises 33 to 35. */
