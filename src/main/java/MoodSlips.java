@@ -54,7 +54,8 @@ public final class MoodSlips {
     private final Syllogism syllogism = new Syllogism();
     private final Derivation derivation = new Derivation();
     private final int[] riddleNumbers = new int[MOST_DRAWN];
-    private int riddleSize;
+    // A riddle of nothing is there, too: only ahead of any riddle there is none.
+    private int riddleSize = NONE;
     private final int[] refusals = new int[5];
     private int latestRefusal;
 
@@ -696,6 +697,9 @@ public final class MoodSlips {
 
     /** One thing about a sentence of the latest riddle, or about all of them. */
     public int drawn(int i, int what) {
+        if (riddleSize == NONE) {
+            return NONE;
+        }
         if (i == NONE) {
             return what == MOOD_A || what == MOOD_E ? countInRiddle(what) : NONE;
         }
@@ -1269,7 +1273,11 @@ public final class MoodSlips {
 
         /** Whether a heap quarrels since it does with a slip left out. */
         boolean markByPart(int heap) {
-            for (int bit = 1; bit <= heap && bit < heaps; bit <<= 1) {
+            if (heap < 0 || heap >= heaps) {
+                return false;
+            }
+            for (int i = 0; i < MOST_SLIPS; i++) {
+                int bit = 1 << i;
                 if ((heap & bit) != 0 && marks[heap & ~bit] != CALM) {
                     marks[heap] = MORE;
                     return true;

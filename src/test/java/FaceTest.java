@@ -33,6 +33,8 @@ public final class FaceTest {
     due("new: lowest", x.name(0, 3, 1), 0);
     due("new: back", x.back(0), -2);
     due("new: drawn", x.drawn(0, 0), -1);
+    due("new: drawn A", x.drawn(-1, 0), -1);
+    due("new: drawn E", x.drawn(-1, 1), -1);
   }
 
   /** Promises 2 and 3. */
@@ -496,6 +498,33 @@ public final class FaceTest {
     due("no slips by it", x.count(0), 0);
   }
 
+  /** Promise 37 ahead of any riddle: there is none to ask about, which a riddle of nothing is not. */
+  private static void noRiddle() {
+    MoodSlips x = with("all a are b", "no b are c");
+    int[] what = {0, 1, 2, -1, 3, LOW, HIGH};
+    for (int w : what) {
+      due("no riddle, all, " + w, x.drawn(-1, w), -1);
+      due("no riddle, first, " + w, x.drawn(0, w), -1);
+    }
+    due("seed that can't be", x.riddle(-1, 3), -1);
+    due("n that can't be", x.riddle(0, 13), -1);
+    due("a refused one is none, A", x.drawn(-1, 0), -1);
+    due("a refused one is none, E", x.drawn(-1, 1), -1);
+    due("not refused by drawn", x.count(5), 2);
+    x.image(0);
+    due("n 0", x.riddle(5, 0), 0);
+    due("a riddle of nothing, A", x.drawn(-1, 0), 0);
+    due("a riddle of nothing, E", x.drawn(-1, 1), 0);
+    due("a riddle of nothing, first", x.drawn(0, 0), -1);
+    due("back", x.back(0), 0);
+    due("images do not keep it, A", x.drawn(-1, 0), 0);
+    due("images do not keep it, E", x.drawn(-1, 1), 0);
+    MoodSlips y = new MoodSlips();
+    due("each object has its own", y.drawn(-1, 1), -1);
+    due("refused behind one", x.riddle(LOW, 0), -1);
+    due("the latest stays", x.drawn(-1, 0), 0);
+  }
+
   /** Promises 38 and 39. */
   private static void images() {
     MoodSlips x = with("all a are b", "no b are c");
@@ -593,6 +622,7 @@ public final class FaceTest {
     moods();
     dispute();
     riddles();
+    noRiddle();
     images();
     counts();
     check.due("NONE", MoodSlips.NONE, -1L);
