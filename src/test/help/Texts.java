@@ -31,6 +31,26 @@ final class Texts {
     return x.question();
   }
 
+  /** A new object with these slips, all of which can be read. */
+  static MoodSlips with(String... slips) {
+    MoodSlips x = new MoodSlips();
+    for (int i = 0; i < slips.length; i++)
+      if (slip(x, slips[i]) != i) throw new IllegalArgumentException("can't be slip " + i + ": " + slips[i]);
+    return x;
+  }
+
+  /** A new object with a question, which can be read, and slips. */
+  static MoodSlips asking(String question, String... slips) {
+    MoodSlips x = with(slips);
+    ask(x, question);
+    return x;
+  }
+
+  /** A question that can be read. */
+  static void ask(MoodSlips x, String question) {
+    if (question(x, question) != 0) throw new IllegalArgumentException("can't be the question: " + question);
+  }
+
   /** A slip as it is written (NONE: the question). */
   static String written(MoodSlips x, int slip) {
     int length = x.letter(slip, MoodSlips.NONE);
